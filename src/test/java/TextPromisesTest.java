@@ -1,0 +1,269 @@
+import java.util.ArrayList;
+import java.util.List;
+
+/** Promises 14 to 19: texts of orders, undo and the snapshot. */
+public final class TextPromisesTest {
+    public static void main(String[] args) {
+        promise14And15();
+        promise16Faults();
+        promise16Orders();
+        promise16Errors();
+        promise16FullText();
+        promise17();
+        promise18And19();
+        Check.end();
+    }
+
+    private static TagWindows plant() {
+        TagWindows x = new TagWindows();
+        x.addAsset(10, 100);
+        x.addAsset(20, 50);
+        x.addCrew(6, 15);
+        x.addCrew(2, 2);
+        return x;
+    }
+
+    private static void promise14And15() {
+        TagWindows x = plant();
+        int states = x.count(15);
+        Check.due("clearText() of an empty text", x.clearText(), 0);
+        char[] any = {'h', ' ', (char) 0, (char) 255, (char) 256, (char) 65535, (char) 10};
+        for (int i = 0; i < 60; i++) {
+            Check.due("type", x.type(any[i % any.length]), i + 1);
+            Check.due("count(16)", x.count(16), i + 1);
+        }
+        Acts.refused("type the 61st", x, p -> p.type('x'), -3);
+        Check.due("typing is no act", x.count(15), states);
+        Check.due("perform() of it", x.perform(), -101);
+        Check.due("clearText()", x.clearText(), 60);
+        Check.due("count(16) then", x.count(16), 0);
+        Check.due("clearText() again", x.clearText(), 0);
+        Check.due("type again", x.type('r'), 1);
+        Check.due("clearing is no act", x.count(15), states);
+        x.type('0');
+        x.undo();
+        Check.due("undo() leaves the text", x.count(16), 2);
+        x.keep();
+        x.clearText();
+        x.restore();
+        Check.due("restore() leaves the text", x.count(16), 0);
+    }
+
+    private static void fault(String text, int at) {
+        TagWindows x = plant();
+        Acts.type(x, text);
+        Acts.refused("perform() of \"" + text + "\"", x, p -> p.perform(), -100 - at);
+    }
+
+    private static void promise16Faults() {
+        String[] endsTooEarly = {"", "h", "h0", "h1", "h12", "h12c", "l", "l0c", "b", "r", "s", "p",
+            "r0;", "b1;", "p48;h2"};
+        for (String text : endsTooEarly) {
+            fault(text, text.length());
+        }
+        fault("x", 0);
+        fault("H0c0", 0);
+        fault(";", 0);
+        fault("0", 0);
+        fault(" r0", 0);
+        fault("c0", 0);
+        fault("h c0", 1);
+        fault("hc0", 1);
+        fault("h-1c0", 1);
+        fault("h00c0", 2);
+        fault("h01c0", 2);
+        fault("h123c0", 3);
+        fault("h1;", 2);
+        fault("h1c;", 3);
+        fault("h1c01", 4);
+        fault("h12c12", 5);
+        fault("l1b", 2);
+        fault("b00", 2);
+        fault("b05", 2);
+        fault("b1c0", 2);
+        fault("b100", 3);
+        fault("r01", 2);
+        fault("r10", 2);
+        fault("rr", 1);
+        fault("s0s0", 2);
+        fault("s12", 2);
+        fault("p00", 2);
+        fault("p480", 3);
+        fault("p4 ", 2);
+        fault("r0;;r1", 3);
+        fault("r0; r1", 3);
+        fault("r0;r1,r0", 5);
+        fault("r0" + (char) 304, 2);
+        fault("r" + (char) 1632, 1);
+        fault("r9;b99;q", 7);
+    }
+
+    private static void promise16Orders() {
+        TagWindows x = plant();
+        x.addTask(0, 1, 1, 0, 12, 0);
+        Acts.type(x, "r1;r0;s0;h0c0;l0c0;h0c1;b0;p12;l0c1");
+        Acts.done("perform() of nine orders", x, p -> p.perform(), 9);
+        Check.due("the text stays", x.count(16), 35);
+        Check.due("the task is done", x.task(0, 1), 4);
+        Check.due("by the crew", x.task(0, 8), 1);
+        Check.due("the hour", x.count(0), 12);
+        Check.due("asset 1 runs", x.asset(1, 0), 1);
+        Check.due("asset 0 stands", x.asset(0, 0), 0);
+        x.clearText();
+        Acts.type(x, "s0");
+        Acts.done("an order that does nothing", x, p -> p.perform(), 1);
+        x.clearText();
+        Acts.type(x, "r1;s0;r1;p1");
+        Acts.done("orders that do nothing, and one that does", x, p -> p.perform(), 4);
+        twoDigits();
+    }
+
+    private static void twoDigits() {
+        TagWindows x = plant();
+        for (int i = 0; i < 24; i++) {
+            x.addTask(0, 0, 1, 0, 1, 0);
+        }
+        Check.due("task 23", Acts.perform(x, "h23c0;b23;p1;l23c0"), 4);
+        Check.due("task 23 is done", x.task(23, 1), 4);
+        Check.due("task 10", Acts.perform(x, "h10c0"), 1);
+        Check.due("task 10 hangs", x.task(10, 1), 1);
+        Check.due("task 1 waits", x.task(1, 1), 0);
+    }
+
+    private static void refused(TagWindows x, String text, int want) {
+        x.clearText();
+        Acts.type(x, text);
+        Acts.refused("perform() of \"" + text + "\"", x, p -> p.perform(), want);
+    }
+
+    private static void promise16Errors() {
+        TagWindows x = plant();
+        x.addTask(0, 1, 1, 0, 2, 0);
+        refused(x, "r2", -1);
+        refused(x, "s9", -1);
+        refused(x, "b1", -1);
+        refused(x, "h99c0", -1);
+        refused(x, "h0c2", -1);
+        refused(x, "l0c9", -1);
+        refused(x, "p0", -2);
+        refused(x, "p49", -2);
+        refused(x, "p99", -2);
+        refused(x, "b0", -4);
+        refused(x, "l0c0", -4);
+        refused(x, "r0;p5;s0;h0c0;b0;r0", -4);
+        refused(x, "r0;p48;p48;p49;r7", -2);
+        refused(x, "r0;p48;b0;p0", -4);
+        refused(x, "r1;r0;h0c0", -4);
+        refused(x, "r1;p1;r1x", -108);
+        x.clearText();
+        Acts.type(x, "p48");
+        for (int i = 0; i < 41; i++) {
+            Check.due("p48", x.perform(), 1);
+        }
+        Acts.refused("p48 too late", x, p -> p.perform(), -4);
+        Check.due("the hour", x.count(0), 41 * 48);
+    }
+
+    private static void promise16FullText() {
+        TagWindows x = plant();
+        StringBuilder twenty = new StringBuilder("r0");
+        for (int i = 1; i < 20; i++) {
+            twenty.append(i % 2 == 0 ? ";r0" : ";s0");
+        }
+        Acts.type(x, twenty.toString());
+        Check.due("the length", x.count(16), 59);
+        Acts.done("twenty orders", x, p -> p.perform(), 20);
+        x.type(';');
+        Acts.refused("twenty orders and a sign", x, p -> p.perform(), -160);
+        refused(x, twenty + "0", -159);
+        String sixty = "h23c0;h22c0;h21c0;h20c0;h19c0;h18c0;h17c0;h16c0;h15c0;p48;p1";
+        Check.due("sixty characters", sixty.length(), 60);
+        refused(x, sixty, -1);
+        refused(x, sixty + "x", -1);
+        refused(x, sixty.replace("p48;p1", "p48;p;"), -159);
+    }
+
+    private static void promise17() {
+        TagWindows x = new TagWindows();
+        Acts.refused("undo() of nothing", x, p -> p.undo(), -5);
+        x.addAsset(1, 1);
+        Acts.refused("an error is not recorded", x, p -> p.addAsset(0, 0), -2);
+        Check.due("undo() of the only act", x.undo(), 0);
+        Check.due("no asset is left", x.count(1), 0);
+        Acts.refused("undo() is not recorded", x, p -> p.undo(), -5);
+        for (int i = 0; i < 6; i++) {
+            x.addAsset(1, 1);
+            Check.due("states", x.count(15), i < 4 ? i + 1 : 4);
+        }
+        for (int i = 3; i >= 0; i--) {
+            Check.due("undo()", x.undo(), i);
+            Check.due("assets left", x.count(1), i + 2);
+        }
+        Acts.refused("undo() beyond four", x, p -> p.undo(), -5);
+        Check.due("the oldest ones are dropped", x.count(1), 2);
+        undoAmongActs();
+    }
+
+    private static void undoAmongActs() {
+        TagWindows x = new TagWindows();
+        List<String> states = new ArrayList<>();
+        for (int i = 0; i < 60; i++) {
+            String was = Told.state(x);
+            int answer = i % 5 == 0 ? x.addAsset(i + 1, i + 1) : i % 5 == 1 ? x.run(i % 8)
+                    : i % 5 == 2 ? x.stop(i % 7) : x.pass(i % 48);
+            if (answer >= 0) {
+                states.add(was);
+            }
+            while (states.size() > 4) {
+                states.remove(0);
+            }
+            if (i % 3 == 0 && !states.isEmpty()) {
+                Check.due("undo() among acts", x.undo(), states.size() - 1);
+                Check.due("the state", Told.state(x), states.remove(states.size() - 1));
+            }
+        }
+    }
+
+    private static void promise18And19() {
+        TagWindows x = plant();
+        Acts.refused("restore() of nothing", x, p -> p.restore(), -5);
+        x.pass(3);
+        int states = x.count(15);
+        String first = Told.state(x);
+        Check.due("keep()", x.keep(), 3);
+        Check.due("keep() is no act", x.count(15), states);
+        Check.due("keep() changes nothing", Told.state(x), first);
+        x.run(1);
+        x.link(0, 1, true);
+        x.pass(4);
+        x.addTask(0, 0, 1, 0, 1, 7);
+        x.hang(0, 0);
+        Acts.done("restore()", x, p -> p.restore(), 3);
+        Check.due("the state then", Told.state(x), first);
+        x.pass(9);
+        Acts.done("restore() again", x, p -> p.restore(), 3);
+        Acts.done("restore() to the same", x, p -> p.restore(), 3);
+        x.pass(10);
+        Check.due("keep() in its place", x.keep(), 13);
+        while (x.undo() >= 0) {
+            Check.due("undo() leaves the snapshot", x.count(0) <= 13 ? 1 : 0, 1);
+        }
+        Acts.done("restore() of the second", x, p -> p.restore(), 13);
+        emptySnapshot();
+    }
+
+    /** A snapshot of an empty plant is one, too; bars belong to the state. */
+    private static void emptySnapshot() {
+        TagWindows x = new TagWindows();
+        Check.due("keep() of a new one", x.keep(), 0);
+        x.addAsset(1, 1);
+        x.bar(1, 2, true);
+        x.bar(3, 3, true);
+        Acts.done("restore()", x, p -> p.restore(), 0);
+        Check.due("no assets", x.count(1), 0);
+        Check.due("no bar", x.bar(1, 2, false), -5);
+        Check.due("no bar of one", x.bar(3, 3, false), -5);
+        Check.due("undo()", x.undo(), 3);
+        Check.due("bars are back", x.bar(2, 1, true), -5);
+    }
+}
