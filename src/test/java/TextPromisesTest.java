@@ -6,6 +6,7 @@ public final class TextPromisesTest {
     public static void main(String[] args) {
         promise14And15();
         promise16Faults();
+        oldCharactersAreGone();
         promise16Orders();
         promise16Errors();
         promise16FullText();
@@ -96,6 +97,29 @@ public final class TextPromisesTest {
         fault("r0" + (char) 304, 2);
         fault("r" + (char) 1632, 1);
         fault("r9;b99;q", 7);
+    }
+
+    /** What was typed ahead of clearText() is gone, though the text is shorter then. */
+    private static void oldCharactersAreGone() {
+        String[] old = {"r0", "r0;s0", "b12", "h0c0", "h0c0", "p48;p48"};
+        String[] texts = {"r", "r0;", "b", "h0c", "h0", "p"};
+        for (int i = 0; i < old.length; i++) {
+            TagWindows x = plant();
+            x.addTask(0, 0, 1, 0, 1, 0);
+            Acts.type(x, old[i]);
+            x.clearText();
+            Acts.type(x, texts[i]);
+            Acts.refused("perform() of \"" + texts[i] + "\" after \"" + old[i] + "\"", x,
+                    p -> p.perform(), -100 - texts[i].length());
+        }
+        TagWindows x = plant();
+        Acts.type(x, "s1;r0;p48");
+        x.clearText();
+        Acts.type(x, "p1");
+        Check.due("perform() of \"p1\" after a longer text", x.perform(), 1);
+        Check.due("the hour", x.count(0), 1);
+        x.clearText();
+        Acts.refused("perform() of a cleared text", x, p -> p.perform(), -100);
     }
 
     private static void promise16Orders() {
@@ -250,6 +274,8 @@ public final class TextPromisesTest {
         }
         Acts.done("restore() of the second", x, p -> p.restore(), 13);
         emptySnapshot();
+        wholeStatesComeBack();
+        tagsComeBackInTheirOrder();
     }
 
     /** A snapshot of an empty plant is one, too; bars belong to the state. */
@@ -265,5 +291,66 @@ public final class TextPromisesTest {
         Check.due("no bar of one", x.bar(3, 3, false), -5);
         Check.due("undo()", x.undo(), 3);
         Check.due("bars are back", x.bar(2, 1, true), -5);
+    }
+
+    /** Numbers that were given anew meanwhile are those of the old things again. */
+    private static void wholeStatesComeBack() {
+        TagWindows x = new TagWindows();
+        x.addAsset(10, 100);
+        x.addCrew(3, 5);
+        x.addCrew(4, 12);
+        x.addTask(0, 2, 2, 3, 7, 5);
+        String first = Told.state(x);
+        x.keep();
+        for (int i = 3; i >= 0; i--) {
+            Check.due("undo()", x.undo(), i);
+        }
+        x.addAsset(90, 7);
+        x.addCrew(6, 11);
+        x.addCrew(1, 2);
+        x.addAsset(80, 9);
+        x.addTask(1, 1, 1, 1, 1, 1);
+        String second = Told.state(x);
+        Check.due("restore() of the first", x.restore(), 0);
+        Check.due("the first state", Told.state(x), first);
+        x.run(0);
+        x.pass(1);
+        Check.dueFloat("the output of the first", x.real(0, 1), 10.0f);
+        for (int i = 3; i >= 1; i--) {
+            Check.due("undo()", x.undo(), i);
+        }
+        Check.due("the second state", Told.state(x), second);
+        x.run(0);
+        x.run(1);
+        x.pass(1);
+        Check.dueFloat("the output of the second", x.real(0, 1), 90.0f);
+        Check.dueFloat("the output beside it", x.real(1, 1), 80.0f);
+    }
+
+    private static void tagsComeBackInTheirOrder() {
+        TagWindows x = plant();
+        for (int i = 0; i < 3; i++) {
+            x.addTask(0, 1, 1, 0, 1, 0);
+        }
+        x.hang(2, 0);
+        x.hang(0, 0);
+        x.hang(1, 1);
+        String first = Told.state(x);
+        x.keep();
+        for (int i = 0; i < 3; i++) {
+            x.undo();
+        }
+        x.hang(1, 0);
+        x.hang(0, 1);
+        x.hang(2, 0);
+        String second = Told.state(x);
+        x.restore();
+        Check.due("the tags of the first", Told.state(x), first);
+        Check.due("the uppermost of the first", x.tagAt(0, 0), 1);
+        x.undo();
+        Check.due("the tags of the second", Told.state(x), second);
+        Check.due("the lowest of the second", x.tagAt(0, 2), 1);
+        Acts.refused("lift what was uppermost in the first", x, p -> p.lift(1, 0), -4);
+        Acts.done("lift what is in the second", x, p -> p.lift(2, 0), 2);
     }
 }

@@ -338,6 +338,38 @@ public final class ToldPromisesTest {
             Check.due("crewFor(" + far + ")", x.crewFor(far), -1);
         }
         Check.due("crewFor(2)", x.crewFor(2), -1);
+        allRoomsTaken();
+    }
+
+    private static void allRoomsTaken() {
+        TagWindows x = new TagWindows();
+        for (int i = 0; i < 8; i++) {
+            x.addAsset(i + 1, 1);
+            x.run(i);
+        }
+        for (int i = 0; i < 5; i++) {
+            x.addCrew(6, i == 0 ? 8 : 2);
+        }
+        for (int i = 0; i < 24; i++) {
+            x.addTask(i % 8, i == 23 ? 3 : 2, 1, 0, 1, 0);
+        }
+        Check.due("none of five crews", x.crewFor(22), -5);
+        Check.due("the crew 0 of five", x.crewFor(23), 0);
+        Check.due("no tag among 24 tasks", x.tagAt(7, 0), -5);
+        x.pass(1);
+        Check.dueFloat("the output of the last one", x.real(7, 1), 8.0f);
+        x.stop(7);
+        x.hang(23, 0);
+        Check.due("the tag of the last one", x.tagAt(7, 0), 23);
+        Check.due("no other", x.tagAt(7, 1), -5);
+        Check.due("begin(23)", x.begin(23), 2);
+        Check.due("it is finished", x.pass(48), 1);
+        Check.due("people that are busy", x.count(14), 1);
+        Check.due("people of the crew", x.crew(0, 2), 1);
+        Check.due("its tasks", x.crew(0, 3), 1);
+        Check.due("tags", x.count(12), 1);
+        Check.due("slips of 23 tasks", x.count(13), 46);
+        Check.due("all that runs", x.count(2), 7);
     }
 
     private static void promise28() {
