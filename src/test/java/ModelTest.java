@@ -3,14 +3,17 @@
  * from a row of numbers that is the same each time.
  */
 public final class ModelTest {
-    private static final int RUNS = 1500;
-    private static final int CALLS = 512;
+    private static final int RUNS = 3000;
+    /** "An object is used for at most 512 calls"; one step of a run makes fewer than 16. */
+    private static final int CALLS = 512 - 16;
+    private static final int LAST_LOOK = 17 + 24 * 13;
     private static final String SIGNS = "hlbrspc;0123456789";
 
     private final TagWindows x = new TagWindows();
     private final Model m = new Model();
     private final String name;
     private long seed;
+    private int calls = 0;
 
     private ModelTest(int run) {
         seed = 7919L * run + 17;
@@ -24,11 +27,22 @@ public final class ModelTest {
         Check.end();
     }
 
+    /** Half of the runs are as long as can be, half of them end with a look at all there is. */
     private void go(int run) {
         int[] weights = weights(run % 4);
-        for (int i = 0; i < CALLS; i++) {
-            oneCall(i < 12 + below(20) ? below(6) : weights[below(weights.length)]);
+        boolean looks = run / 4 % 2 == 0;
+        int most = looks ? CALLS - LAST_LOOK : CALLS;
+        int beginning = 12 + below(20);
+        for (int i = 0; i < CALLS && calls < most; i++) {
+            oneCall(i < beginning ? below(6) : weights[below(weights.length)]);
         }
+        if (looks) {
+            lookAtAll();
+        }
+        Check.due(name + "calls", calls <= 512 ? 1 : 0, 1);
+    }
+
+    private void lookAtAll() {
         for (int what = 0; what <= 16; what++) {
             due("count", x.count(what), m.count(what), what);
         }
@@ -73,21 +87,21 @@ public final class ModelTest {
     }
 
     private int anAsset() {
-        return number(0, Math.max(0, x.count(1) - 1));
+        return number(0, Math.max(0, m.count(1) - 1));
     }
 
     private int aCrew() {
-        return number(0, Math.max(0, x.count(3) - 1));
+        return number(0, Math.max(0, m.count(3) - 1));
     }
 
     private int aTask() {
-        return number(0, Math.max(0, x.count(4) - 1));
+        return number(0, Math.max(0, m.count(4) - 1));
     }
 
     private int aTaskIn(int state) {
         int first = Math.max(0, aTask());
         for (int i = 0; i < 24; i++) {
-            if (x.task((first % 24 + i) % 24, 1) == state) {
+            if (m.task((first % 24 + i) % 24, 1) == state) {
                 return (first % 24 + i) % 24;
             }
         }
@@ -134,7 +148,7 @@ public final class ModelTest {
             case 7: due("stop", x.stop(a), m.act("stop", a), a); break;
             case 8: {
                 int t = aTaskIn(0);
-                int crew = below(2) == 0 ? c : x.crewFor(t);
+                int crew = below(2) == 0 ? c : m.crewFor(t);
                 due("hang", x.hang(t, crew), m.act("hang", t, crew), t, crew);
                 break;
             }
@@ -162,7 +176,7 @@ public final class ModelTest {
         int people = number(1, 3);
         int kind = number(0, 4);
         int hours = below(5) == 0 ? number(1, 48) : number(1, 6);
-        int from = below(8) == 0 ? number(x.count(0), 2000) : x.count(0) + below(8);
+        int from = below(8) == 0 ? number(m.count(0), 2000) : m.count(0) + below(8);
         due("addTask", x.addTask(asset, skill, people, kind, hours, from),
                 m.act("addTask", asset, skill, people, kind, hours, from),
                 asset, skill, people, kind, hours, from);
@@ -171,9 +185,9 @@ public final class ModelTest {
     private void lift() {
         int t = aTaskIn(below(2) == 0 ? 3 : 1);
         if (below(3) == 0) {
-            t = x.tagAt(anAsset(), 0);
+            t = m.tagAt(anAsset(), 0);
         }
-        int crew = below(4) == 0 ? aCrew() : x.task(t, 8);
+        int crew = below(4) == 0 ? aCrew() : m.task(t, 8);
         due("lift", x.lift(t, crew), m.act("lift", t, crew), t, crew);
     }
 
@@ -199,7 +213,7 @@ public final class ModelTest {
             due("type", x.type(c), m.type(c), c);
             return;
         }
-        String order = (x.count(16) > 0 ? ";" : "") + anOrder();
+        String order = (m.count(16) > 0 ? ";" : "") + anOrder();
         for (int i = 0; i < order.length(); i++) {
             char c = order.charAt(i);
             due("type", x.type(c), m.type(c), c);
@@ -210,7 +224,7 @@ public final class ModelTest {
         int t = aTaskIn(below(4));
         switch (below(6)) {
             case 0: return "h" + t + "c" + aCrew();
-            case 1: return "l" + t + "c" + x.task(t, 8);
+            case 1: return "l" + t + "c" + m.task(t, 8);
             case 2: return "b" + t;
             case 3: return "r" + anAsset();
             case 4: return "s" + anAsset();
@@ -268,10 +282,12 @@ public final class ModelTest {
     }
 
     private void due(String call, int got, int want, int... args) {
+        calls++;
         Check.due(got == want ? call : name + call + java.util.Arrays.toString(args), got, want);
     }
 
     private void dueFloat(String call, float got, float want, int... args) {
+        calls++;
         Check.dueFloat(name + call + java.util.Arrays.toString(args), got, want);
     }
 }

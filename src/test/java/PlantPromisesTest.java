@@ -13,7 +13,7 @@ public final class PlantPromisesTest {
     }
 
     private static void promise1() {
-        TagWindows x = new TagWindows();
+        Replay x = new Replay();
         for (int what = 0; what <= 16; what++) {
             Check.due("new: count(" + what + ")", x.count(what), 0);
         }
@@ -27,11 +27,11 @@ public final class PlantPromisesTest {
             Check.due("new: no kind bars " + kind, x.bar(kind, 4, false), TagWindows.NONE);
         }
         x.addAsset(1, 1);
-        Check.due("another object is another plant", new TagWindows().count(1), 0);
+        Check.due("another object is another plant", new Replay().count(1), 0);
     }
 
     private static void promise2() {
-        TagWindows x = new TagWindows();
+        Replay x = new Replay();
         int[][] wrong = {{0, 1}, {101, 1}, {1, 0}, {1, 201}, {-1, 5}, {5, -1},
             {Integer.MIN_VALUE, 1}, {Integer.MAX_VALUE, 1}, {1, Integer.MIN_VALUE}};
         for (int[] w : wrong) {
@@ -55,7 +55,7 @@ public final class PlantPromisesTest {
 
     /** A number that undo() gave back belongs to a fresh asset, not to the one that was. */
     private static void numbersAreUsedAgain() {
-        TagWindows x = new TagWindows();
+        Replay x = new Replay();
         x.addAsset(1, 1);
         x.addAsset(50, 50);
         x.link(0, 1, true);
@@ -73,7 +73,7 @@ public final class PlantPromisesTest {
     }
 
     private static void promise3() {
-        TagWindows x = new TagWindows();
+        Replay x = new Replay();
         for (int i = 0; i < 8; i++) {
             x.addAsset(10, 10);
         }
@@ -98,7 +98,7 @@ public final class PlantPromisesTest {
     }
 
     private static void promise4() {
-        TagWindows x = new TagWindows();
+        Replay x = new Replay();
         int[][] wrong = {{-1, 0}, {0, -1}, {5, 0}, {0, 5}, {Integer.MAX_VALUE, 0},
             {0, Integer.MIN_VALUE}};
         for (int[] w : wrong) {
@@ -118,7 +118,7 @@ public final class PlantPromisesTest {
     }
 
     private static void promise5() {
-        TagWindows x = new TagWindows();
+        Replay x = new Replay();
         int[][] wrong = {{0, 1}, {7, 1}, {1, -1}, {1, 16}, {-6, 3}, {Integer.MAX_VALUE, 0},
             {1, Integer.MIN_VALUE}};
         for (int[] w : wrong) {
@@ -137,7 +137,7 @@ public final class PlantPromisesTest {
     }
 
     private static void promise6() {
-        TagWindows x = new TagWindows();
+        Replay x = new Replay();
         x.addAsset(10, 10);
         Acts.done("addTask(0, 0, 1, 0, 1, 0)", x, p -> p.addTask(0, 0, 1, 0, 1, 0), 0);
         Acts.done("addTask(0, 3, 6, 4, 48, 2000)", x, p -> p.addTask(0, 3, 6, 4, 48, 2000), 1);
@@ -158,7 +158,7 @@ public final class PlantPromisesTest {
     }
 
     private static void promise6Errors() {
-        TagWindows x = new TagWindows();
+        Replay x = new Replay();
         Acts.refused("addTask without assets", x, p -> p.addTask(0, 0, 1, 0, 1, 0), -1);
         x.addAsset(10, 10);
         x.pass(40);
@@ -176,7 +176,7 @@ public final class PlantPromisesTest {
     }
 
     private static void promise7And8() {
-        TagWindows x = new TagWindows();
+        Replay x = new Replay();
         x.addAsset(10, 10);
         x.addAsset(10, 10);
         x.addCrew(6, 15);

