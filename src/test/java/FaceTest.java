@@ -2,6 +2,8 @@ import java.lang.reflect.Constructor;
 import java.lang.reflect.Field;
 import java.lang.reflect.Method;
 import java.lang.reflect.Modifier;
+import java.util.ArrayList;
+import java.util.List;
 import java.util.Set;
 import java.util.TreeSet;
 
@@ -33,7 +35,24 @@ public final class FaceTest {
                     inside.getModifiers() & (Modifier.PRIVATE | Modifier.STATIC),
                     Modifier.PRIVATE | Modifier.STATIC);
         }
+        hiddenNames(face);
         Check.end();
+    }
+
+    /** LANGUAGE.md, rule 1: "No private method bears the name of a public one." */
+    private static void hiddenNames(Class<?> face) {
+        Set<String> open = new TreeSet<>();
+        for (Method m : face.getMethods()) {
+            open.add(m.getName());
+        }
+        List<Method> hidden = new ArrayList<>(List.of(face.getDeclaredMethods()));
+        for (Class<?> inside : face.getDeclaredClasses()) {
+            hidden.addAll(List.of(inside.getDeclaredMethods()));
+        }
+        for (Method m : hidden) {
+            boolean isOfTheFace = Modifier.isPublic(m.getModifiers());
+            Check.due(m + " has a name of its own", !isOfTheFace && open.contains(m.getName()) ? 1 : 0, 0);
+        }
     }
 
     private static void methods(Class<?> face) {

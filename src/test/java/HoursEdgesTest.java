@@ -27,6 +27,7 @@ public final class HoursEdgesTest {
         whatHangsAlwaysSlips();
         liftedBehindManySlips();
         noSlipInTheOtherStates();
+        noSlipOfWorkThatBeganLate();
         theHourIsGreaterWhenItSlips();
         slipsGoBeyondTheLastHour();
         Check.end();
@@ -347,6 +348,26 @@ public final class HoursEdgesTest {
         x.pass(1);
         Acts.told("13 the long one is finished", x, p -> p.task(7, 1), 3);
         Acts.told("13 it has not slipped", x, p -> p.task(7, 10), 0);
+    }
+
+    /** Begun at the last hour, it is in work while hour + hours is greater than the end. */
+    private static void noSlipOfWorkThatBeganLate() {
+        Replay x = waitingAndHanging(4);
+        Plants.passTo(x, 10);
+        Acts.done("13 begin at the last hour", x, p -> p.begin(1), 14);
+        for (int left = 3; left >= 1; left--) {
+            x.pass(1);
+            taskIs(x, 1, 2, 0, 14, 0);
+            Check.due("13 hours left", x.task(1, 9), left);
+        }
+        taskIs(x, 0, 0, 24, 38, 1);
+        Acts.done("13 its last hour", x, p -> p.pass(1), 1);
+        taskIs(x, 1, 3, 0, 14, 0);
+        x.pass(9);
+        taskIs(x, 1, 3, 0, 14, 0);
+        x.lift(1, 0);
+        x.pass(9);
+        taskIs(x, 1, 4, 0, 14, 0);
     }
 
     /** Its third step is ahead of the fourth: the hour that is asked for is the new one. */

@@ -1,3 +1,6 @@
+import java.lang.reflect.Field;
+import java.lang.reflect.Method;
+import java.lang.reflect.Modifier;
 import java.nio.file.Files;
 import java.nio.file.Path;
 import java.util.regex.Matcher;
@@ -29,6 +32,35 @@ public final class LanguageTest {
             Matcher m = Pattern.compile(rule[1]).matcher(code);
             Check.due("rule " + rule[0], m.find() ? m.group() : "", "");
         }
+        objectsAreMadeWithTheObject(code);
+        sizes(TagWindows.class);
+        for (Class<?> inside : TagWindows.class.getDeclaredClasses()) {
+            sizes(inside);
+        }
+        Check.due("rule 11: some twelve classes", TagWindows.class.getDeclaredClasses().length < 12 ? 1 : 0, 1);
         Check.end();
+    }
+
+    /** All calls live in one room: rows are made in constructors, and no call makes an object. */
+    private static void objectsAreMadeWithTheObject(String code) {
+        for (String line : code.split("\n")) {
+            if (line.contains("new ")) {
+                boolean isField = line.matches(" +(private )?final \\w+(\\[\\])? \\w+ = new .*");
+                boolean isRow = line.matches(" +\\w+\\[i\\] = new \\w+\\(\\);");
+                Check.due("made in a constructor: " + line.trim(), isField || isRow ? 1 : 0, 1);
+            }
+        }
+    }
+
+    /** Rule 11: "at most seven parameters", "some twenty fields beside its constants". */
+    private static void sizes(Class<?> c) {
+        for (Method m : c.getDeclaredMethods()) {
+            Check.due("rule 11: parameters of " + m, m.getParameterCount() <= 7 ? 1 : 0, 1);
+        }
+        int fields = 0;
+        for (Field f : c.getDeclaredFields()) {
+            fields += Modifier.isStatic(f.getModifiers()) ? 0 : 1;
+        }
+        Check.due("rule 11: fields of " + c, fields <= 20 ? 1 : 0, 1);
     }
 }

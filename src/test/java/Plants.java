@@ -3,10 +3,19 @@ final class Plants {
     private Plants() {
     }
 
+    /** Two assets, a crew with all skills and six people, one with the skill 1 and two people. */
+    static Replay plain() {
+        Replay x = new Replay();
+        x.addAsset(10, 100);
+        x.addAsset(20, 50);
+        x.addCrew(6, 15);
+        x.addCrew(2, 2);
+        return x;
+    }
+
     /**
-     * Two assets, a crew with all skills and six people, one with the skill 1 and two people; there
-     * are four states in the history, a snapshot of another state and a text, so that a call that
-     * is refused could change each of them.
+     * The same, with four states in the history, a snapshot of another state and a text, so that a
+     * call that is refused could change each of them.
      */
     static Replay small() {
         Replay x = new Replay();
@@ -74,10 +83,14 @@ final class Plants {
         return x;
     }
 
-    /** Lets the hours pass up to that one. */
+    /** Lets the hours pass up to that one; a program that refuses them ends the test. */
     static void passTo(Replay x, int hour) {
         while (x.count(0) < hour) {
-            x.pass(Math.min(48, hour - x.count(0)));
+            int was = x.count(0);
+            x.pass(Math.min(48, hour - was));
+            if (x.count(0) <= was) {
+                throw new IllegalStateException("no hours pass from " + was + " to " + hour);
+            }
         }
     }
 }

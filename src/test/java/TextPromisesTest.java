@@ -15,17 +15,8 @@ public final class TextPromisesTest {
         Check.end();
     }
 
-    private static Replay plant() {
-        Replay x = new Replay();
-        x.addAsset(10, 100);
-        x.addAsset(20, 50);
-        x.addCrew(6, 15);
-        x.addCrew(2, 2);
-        return x;
-    }
-
     private static void promise14And15() {
-        Replay x = plant();
+        Replay x = Plants.plain();
         int states = x.count(15);
         Check.due("clearText() of an empty text", x.clearText(), 0);
         char[] any = {'h', ' ', (char) 0, (char) 255, (char) 256, (char) 65535, (char) 10};
@@ -51,7 +42,7 @@ public final class TextPromisesTest {
     }
 
     private static void fault(String text, int at) {
-        Replay x = plant();
+        Replay x = Plants.plain();
         Acts.type(x, text);
         Acts.refused("perform() of \"" + text + "\"", x, p -> p.perform(), -100 - at);
     }
@@ -104,7 +95,7 @@ public final class TextPromisesTest {
         String[] old = {"r0", "r0;s0", "b12", "h0c0", "h0c0", "p48;p48"};
         String[] texts = {"r", "r0;", "b", "h0c", "h0", "p"};
         for (int i = 0; i < old.length; i++) {
-            Replay x = plant();
+            Replay x = Plants.plain();
             x.addTask(0, 0, 1, 0, 1, 0);
             Acts.type(x, old[i]);
             x.clearText();
@@ -112,7 +103,7 @@ public final class TextPromisesTest {
             Acts.refused("perform() of \"" + texts[i] + "\" after \"" + old[i] + "\"", x,
                     p -> p.perform(), -100 - texts[i].length());
         }
-        Replay x = plant();
+        Replay x = Plants.plain();
         Acts.type(x, "s1;r0;p48");
         x.clearText();
         Acts.type(x, "p1");
@@ -123,7 +114,7 @@ public final class TextPromisesTest {
     }
 
     private static void promise16Orders() {
-        Replay x = plant();
+        Replay x = Plants.plain();
         x.addTask(0, 1, 1, 0, 12, 0);
         Acts.type(x, "r1;r0;s0;h0c0;l0c0;h0c1;b0;p12;l0c1");
         Acts.done("perform() of nine orders", x, p -> p.perform(), 9);
@@ -143,7 +134,7 @@ public final class TextPromisesTest {
     }
 
     private static void twoDigits() {
-        Replay x = plant();
+        Replay x = Plants.plain();
         for (int i = 0; i < 24; i++) {
             x.addTask(0, 0, 1, 0, 1, 0);
         }
@@ -161,7 +152,7 @@ public final class TextPromisesTest {
     }
 
     private static void promise16Errors() {
-        Replay x = plant();
+        Replay x = Plants.plain();
         x.addTask(0, 1, 1, 0, 2, 0);
         refused(x, "r2", -1);
         refused(x, "s9", -1);
@@ -189,7 +180,7 @@ public final class TextPromisesTest {
     }
 
     private static void promise16FullText() {
-        Replay x = plant();
+        Replay x = Plants.plain();
         StringBuilder twenty = new StringBuilder("r0");
         for (int i = 1; i < 20; i++) {
             twenty.append(i % 2 == 0 ? ";r0" : ";s0");
@@ -249,7 +240,7 @@ public final class TextPromisesTest {
     }
 
     private static void promise18And19() {
-        Replay x = plant();
+        Replay x = Plants.plain();
         Acts.refused("restore() of nothing", x, p -> p.restore(), -5);
         x.pass(3);
         int states = x.count(15);
@@ -328,7 +319,7 @@ public final class TextPromisesTest {
     }
 
     private static void tagsComeBackInTheirOrder() {
-        Replay x = plant();
+        Replay x = Plants.plain();
         for (int i = 0; i < 3; i++) {
             x.addTask(0, 1, 1, 0, 1, 0);
         }

@@ -21,6 +21,7 @@ public final class ToldEdgesTest {
         hoursToUnknownComesAheadOfBadValue();
         hoursToZeroIfItIsNow();
         hoursToABoundThatIsMet();
+        hoursToABoundThatIsDivided();
         hoursToTwoHundredAndOneMore();
         hoursToTheLeastHealth();
         assetOfUnknownAssets();
@@ -157,7 +158,9 @@ public final class ToldEdgesTest {
         y.pass(9);
         Check.dueFloat("21 as it comes when it runs", y.real(0, 0), foretold);
         Plants.passTo(y, 2000);
-        Check.dueFloat("21 beyond the last hour", y.healthIn(0, 200), 0.01f);
+        Check.dueFloat("21 beyond the last hour, at the least", y.healthIn(0, 200), 0.01f);
+        Check.dueFloat("21 beyond the last hour", y.healthIn(1, 14), Plants.small().healthIn(1, 14));
+        Acts.told("22 beyond the last hour", y, p -> p.hoursTo(1, 50), 14);
     }
 
     private static void hoursToOfUnknownAssets() {
@@ -202,6 +205,15 @@ public final class ToldEdgesTest {
         x.addAsset(1, 100);
         Acts.told("22 met behind two hours", x, p -> p.hoursTo(0, 81), 3);
         Acts.told("22 the whole health is met now", x, p -> p.hoursTo(0, 100), 1);
+    }
+
+    /** "the bound is percent / 100.0f": 91 * 0.01f would be a little less, just what is met here. */
+    private static void hoursToABoundThatIsDivided() {
+        Replay x = new Replay();
+        x.addAsset(1, 90);
+        Check.due("22 the health is less than 91 / 100.0f", x.healthIn(0, 1) < 91 / 100.0f ? 1 : 0, 1);
+        Check.due("22 it is not less than 91 * 0.01f", x.healthIn(0, 1) < 91 * 0.01f ? 1 : 0, 0);
+        Acts.told("22 less than 91", x, p -> p.hoursTo(0, 91), 1);
     }
 
     /** "NONE if it is not within 200 hours": the 200th is within. */
@@ -410,6 +422,27 @@ public final class ToldEdgesTest {
         Acts.told("25 nobody is busy then", x, p -> p.crew(0, 2), 0);
         Acts.told("25 for no task", x, p -> p.crew(0, 3), 0);
         Acts.told("25 the finished one is done, the other one is not", x, p -> p.crew(0, 4), 1);
+        crewOfTheFirstAndTheLastTask();
+    }
+
+    private static void crewOfTheFirstAndTheLastTask() {
+        Replay x = Plants.full();
+        Plants.passTo(x, 100);
+        int[] tasks = {0, 23};
+        for (int i = 0; i < 2; i++) {
+            int tasksThen = i + 1;
+            x.hang(tasks[i], 4);
+            Acts.told("25 the tasks of the last crew", x, p -> p.crew(4, 3), tasksThen);
+            Acts.told("25 its busy people", x, p -> p.crew(4, 2), tasksThen);
+            x.begin(tasks[i]);
+        }
+        x.pass(24);
+        for (int i = 0; i < 2; i++) {
+            int done = i + 1;
+            x.lift(tasks[i], 4);
+            Acts.told("25 its tasks that are done", x, p -> p.crew(4, 4), done);
+            Acts.told("25 its tasks left", x, p -> p.crew(4, 3), 2 - done);
+        }
     }
 
     private static void taskOfUnknownTasks() {
@@ -580,6 +613,20 @@ public final class ToldEdgesTest {
         Acts.told("27 one of them is busy", x, p -> p.crewFor(0), NONE);
         x.lift(1, 2);
         Acts.told("27 they are free again", x, p -> p.crewFor(0), 2);
+        Replay y = Plants.full();
+        for (int i = 0; i < 5; i++) {
+            for (int k = 0; k < 4; k++) {
+                y.hang(4 * i + k, i);
+            }
+        }
+        Acts.told("27 all five crews have two that are free", y, p -> p.crewFor(23), 0);
+        y = new Replay();
+        y.addAsset(1, 1);
+        for (int i = 0; i < 5; i++) {
+            y.addCrew(5, 15);
+        }
+        y.addTask(0, 0, 6, 0, 1, 0);
+        Acts.told("27 none of five crews", y, p -> p.crewFor(0), NONE);
     }
 
     /** "(whether its asset runs does not matter)". */

@@ -16,17 +16,8 @@ public final class ToldPromisesTest {
         Check.end();
     }
 
-    private static Replay plant() {
-        Replay x = new Replay();
-        x.addAsset(10, 100);
-        x.addAsset(20, 50);
-        x.addCrew(6, 15);
-        x.addCrew(2, 2);
-        return x;
-    }
-
     private static void promise20() {
-        Replay x = plant();
+        Replay x = Plants.plain();
         x.run(1);
         x.pass(1);
         Check.dueFloat("health", x.real(1, 0), 1.0f - 1.0f * 0.05f);
@@ -41,7 +32,7 @@ public final class ToldPromisesTest {
     }
 
     private static void promise21() {
-        Replay x = plant();
+        Replay x = Plants.plain();
         x.run(0);
         x.pass(2);
         Check.dueFloat("healthIn(0, 0)", x.healthIn(0, 0), x.real(0, 0));
@@ -70,7 +61,7 @@ public final class ToldPromisesTest {
     }
 
     private static void promise22() {
-        Replay x = plant();
+        Replay x = Plants.plain();
         x.addAsset(1, 200);
         x.addAsset(1, 1);
         Check.due("not less than 1 at once", x.hoursTo(0, 100), 1);
@@ -99,16 +90,20 @@ public final class ToldPromisesTest {
         for (int wear = 1; wear <= 200; wear++) {
             Replay x = new Replay();
             x.addAsset(1, wear);
-            for (int percent = 1; percent <= 100; percent += 3) {
+            float[] healths = new float[201];
+            for (int hours = 0; hours <= 200; hours++) {
+                healths[hours] = x.healthIn(0, hours);
+            }
+            for (int percent = 1; percent <= 100; percent++) {
                 Check.due("hoursTo of wear " + wear + ", " + percent, x.hoursTo(0, percent),
-                        hoursUntil(x, 0, percent / 100.0f));
+                        hoursUntil(healths, percent / 100.0f));
             }
         }
     }
 
-    private static int hoursUntil(Replay x, int asset, float bound) {
+    private static int hoursUntil(float[] healths, float bound) {
         for (int hours = 0; hours <= 200; hours++) {
-            if (x.healthIn(asset, hours) < bound) {
+            if (healths[hours] < bound) {
                 return hours;
             }
         }
@@ -116,7 +111,7 @@ public final class ToldPromisesTest {
     }
 
     private static void promise23() {
-        Replay x = plant();
+        Replay x = Plants.plain();
         x.addAsset(7, 30);
         x.link(0, 2, true);
         for (int i = 0; i < 7; i++) {
@@ -157,7 +152,7 @@ public final class ToldPromisesTest {
     }
 
     private static void promise24() {
-        Replay x = plant();
+        Replay x = Plants.plain();
         for (int i = 0; i < 8; i++) {
             x.addTask(i % 2, 0, 1, 0, 1, 0);
         }
@@ -187,7 +182,7 @@ public final class ToldPromisesTest {
     }
 
     private static void promise25() {
-        Replay x = plant();
+        Replay x = Plants.plain();
         int[] people = {3, 1, 1, 2, 1};
         for (int i = 0; i < 5; i++) {
             x.addTask(i % 2, 1, people[i], 0, i + 1, 0);
@@ -225,7 +220,7 @@ public final class ToldPromisesTest {
     }
 
     private static void promise26() {
-        Replay x = plant();
+        Replay x = Plants.plain();
         x.addTask(1, 3, 4, 2, 5, 6);
         taskTells(x, 1, 0, 3, 4, 2, 5, 6, 22, -5, -5, 0, 1, -5);
         x.hang(0, 0);
@@ -260,7 +255,7 @@ public final class ToldPromisesTest {
     }
 
     private static void promise26Reasons() {
-        Replay x = plant();
+        Replay x = Plants.plain();
         x.bar(0, 0, true);
         x.addTask(0, 0, 1, 0, 2, 0);
         x.addTask(0, 0, 1, 0, 2, 0);
@@ -291,7 +286,7 @@ public final class ToldPromisesTest {
     }
 
     private static void lowestBarrier() {
-        Replay x = plant();
+        Replay x = Plants.plain();
         x.link(0, 1, true);
         x.addTask(0, 0, 1, 0, 9, 0);
         x.addTask(0, 0, 1, 1, 9, 0);
@@ -371,7 +366,7 @@ public final class ToldPromisesTest {
     }
 
     private static void promise28() {
-        Replay x = plant();
+        Replay x = Plants.plain();
         x.run(1);
         int[] people = {1, 1, 1, 1, 1, 2, 3};
         for (int i = 0; i < 7; i++) {

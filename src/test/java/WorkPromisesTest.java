@@ -14,18 +14,8 @@ public final class WorkPromisesTest {
         Check.end();
     }
 
-    /** Two linked assets, a crew with all skills and six people, one with skill 1 and two people. */
-    private static Replay plant() {
-        Replay x = new Replay();
-        x.addAsset(10, 100);
-        x.addAsset(20, 50);
-        x.addCrew(6, 15);
-        x.addCrew(2, 2);
-        return x;
-    }
-
     private static void promise9() {
-        Replay x = plant();
+        Replay x = Plants.plain();
         x.addTask(0, 1, 2, 0, 1, 5);
         x.addTask(0, 2, 2, 0, 1, 0);
         x.addTask(0, 1, 1, 0, 1, 0);
@@ -50,7 +40,7 @@ public final class WorkPromisesTest {
     }
 
     private static void promise9People() {
-        Replay x = plant();
+        Replay x = Plants.plain();
         for (int i = 0; i < 4; i++) {
             x.addTask(1, 0, 2, 0, 2, 0);
         }
@@ -67,7 +57,7 @@ public final class WorkPromisesTest {
     }
 
     private static void promise10() {
-        Replay x = plant();
+        Replay x = Plants.plain();
         x.addTask(0, 0, 1, 0, 3, 4);
         Acts.refused("begin(1)", x, p -> p.begin(1), -1);
         Acts.refused("begin(-1)", x, p -> p.begin(-1), -1);
@@ -88,7 +78,7 @@ public final class WorkPromisesTest {
     }
 
     private static void latestBegin() {
-        Replay x = plant();
+        Replay x = Plants.plain();
         x.addTask(0, 0, 1, 0, 3, 0);
         x.hang(0, 0);
         x.pass(9);
@@ -98,7 +88,7 @@ public final class WorkPromisesTest {
     }
 
     private static void promise10Barred() {
-        Replay x = plant();
+        Replay x = Plants.plain();
         x.addAsset(5, 5);
         x.addTask(0, 0, 1, 1, 5, 0);
         x.addTask(1, 0, 1, 2, 5, 0);
@@ -131,7 +121,7 @@ public final class WorkPromisesTest {
     }
 
     private static void promise11() {
-        Replay x = plant();
+        Replay x = Plants.plain();
         x.addTask(0, 1, 1, 0, 2, 0);
         x.addTask(0, 1, 1, 0, 2, 0);
         x.addTask(1, 1, 1, 0, 2, 0);
@@ -163,7 +153,7 @@ public final class WorkPromisesTest {
     }
 
     private static void promise12() {
-        Replay x = plant();
+        Replay x = Plants.plain();
         x.addTask(0, 1, 1, 0, 1, 0);
         x.addTask(0, 1, 1, 0, 1, 0);
         x.addTask(0, 1, 1, 0, 1, 0);
@@ -184,7 +174,7 @@ public final class WorkPromisesTest {
     }
 
     private static void promise13() {
-        Replay x = plant();
+        Replay x = Plants.plain();
         int[] wrong = {0, -1, 49, Integer.MAX_VALUE, Integer.MIN_VALUE};
         for (int w : wrong) {
             Acts.refused("pass(" + w + ")", x, p -> p.pass(w), -2);
@@ -206,7 +196,7 @@ public final class WorkPromisesTest {
     }
 
     private static void promise13RunsAndWears() {
-        Replay x = plant();
+        Replay x = Plants.plain();
         x.addAsset(100, 200);
         x.run(0);
         x.run(2);
@@ -227,7 +217,7 @@ public final class WorkPromisesTest {
         Check.dueFloat("what stands does not wear", x.real(1, 0), 1.0f);
         Check.dueFloat("nor put out", x.real(1, 1), 0.0f);
         Check.dueFloat("wear stays", x.real(2, 2), 0.2f);
-        Replay y = plant();
+        Replay y = Plants.plain();
         y.run(0);
         y.pass(2);
         Check.dueFloat("health after two hours", y.real(0, 0), 0.81f);
@@ -235,7 +225,7 @@ public final class WorkPromisesTest {
     }
 
     private static void promise13Finishes() {
-        Replay x = plant();
+        Replay x = Plants.plain();
         x.addTask(0, 0, 1, 0, 2, 10);
         x.addTask(0, 0, 1, 0, 2, 10);
         x.addTask(1, 0, 1, 0, 3, 10);
@@ -262,7 +252,7 @@ public final class WorkPromisesTest {
     }
 
     private static void promise13Slips() {
-        Replay x = plant();
+        Replay x = Plants.plain();
         x.addTask(0, 0, 1, 0, 2, 0);
         x.addTask(0, 0, 1, 0, 2, 0);
         x.addTask(0, 0, 1, 0, 48, 0);
@@ -299,7 +289,7 @@ public final class WorkPromisesTest {
 
     /** Work that has begun has its hours, though its window ends meanwhile. */
     private static void workDoesNotSlip() {
-        Replay x = plant();
+        Replay x = Plants.plain();
         x.addTask(0, 0, 1, 0, 4, 0);
         x.hang(0, 0);
         x.pass(10);
